@@ -569,7 +569,7 @@ public final class StatueVotes {
         }
 
         private void skipBlanks() {
-            while (at < length && letter() == BLANK) {
+            while (at < length && letters[at] == BLANK) {
                 at++;
             }
         }

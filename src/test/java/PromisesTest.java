@@ -141,6 +141,8 @@ final class PromisesTest {
         for (int what = 0; what <= 13; what++) due("as it was: told(" + what + ")", x.told(what), asItWas[what]);
         due("tired", x.statue(1, 3), 12);
         due("image", x.goBack(1), 1);
+        x.keep(0);
+        x.scrub(0);
         feed(x, "t2;p5;p6;s0 1 9;w2 3 1;");
         due("capital", x.capital(), 2);
         due("fault, none", x.fault(), NONE);
@@ -149,6 +151,7 @@ final class PromisesTest {
         due("tired", x.statue(0, 3), 0);
         due("elected", x.statue(0, 4), 0);
         due("undo", x.undo(), NOT);
+        due("images are gone", x.goBack(0), NOT);
         due("images are gone", x.goBack(1), NOT);
         due("the seed stays", x.seed(0), 77);
         x.year(2);
@@ -515,6 +518,17 @@ final class PromisesTest {
         none.seed(1);
         none.drift(1);
         due("no statues: one draw", none.seed(0), 1103527590);
+        none.seed(4);
+        none.drift(1);
+        due("no statues: one draw", none.seed(0), 119106029);
+        StatueVotes single = of("t9;p0;s0 9 0;w0 1 1;");
+        due("drift(1)", single.drift(1), 0);
+        due("the one walker, the one plinth", single.walker(0, 0), 1);
+        single.seed(4);
+        due("the one statue", single.drift(1), 1);
+        single.seed(1);
+        due("is scrubbed", single.drift(1), 1);
+        due("and tired anew", single.statue(0, 3), 3);
         due("drift(0)", z.drift(0), OUTSIDE);
         due("drift(61)", z.drift(61), OUTSIDE);
         due("drift(61), no capital", new StatueVotes().drift(61), OUTSIDE);
@@ -648,6 +662,10 @@ final class PromisesTest {
         seven.walk(0, 0);
         due("the third of six", seven.power(6, 0, 0), 120);
         due("two of five others", seven.power(6, 0, 1), 10);
+        StatueVotes ruler = of("t1;p0;w1 9 0;w1 1 0;w1 1 0;w1 1 0;w1 1 0;w1 1 0;w1 1 0;");
+        due("all orders", ruler.power(0, 0, 0), 5040);
+        due("all sets", ruler.power(0, 0, 1), 64);
+        due("no order", ruler.power(1, 0, 0), 0);
         StatueVotes one = of("t1;p0;w1 9 0;");
         due("alone", one.power(0, 0, 0), 1);
         due("alone", one.power(0, 0, 1), 1);
@@ -776,6 +794,11 @@ final class PromisesTest {
         StatueVotes y = of("t1;p0;w1 9 0;w1 9 0;w1 9 0;w1 9 0;w1 9 0;w1 9 0;w1 9 0;");
         y.count(0, 63);
         due("all seven", y.likings(1), 127);
+        due("one alone parts nothing", y.ladder(), NONE);
+        y.tear();
+        y.count(0, 0);
+        due("the empty set alone", y.likings(0), 1);
+        due("nobody in it", y.likings(1), 0);
         due("no walkers: the empty set", of("t1;p0;").likings(0), 1);
     }
 
