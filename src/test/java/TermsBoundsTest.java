@@ -1,3 +1,5 @@
+import java.util.Arrays;
+
 /** The terms of the document: what there is not, what is out of bounds, which refusal comes first, what is behind one. */
 final class TermsBoundsTest {
     private static final int NONE = Run.NONE, UNKNOWN = Run.UNKNOWN, OUTSIDE = Run.OUTSIDE, NOT = Run.NOT, FULL = Run.FULL, ANY = Run.ANY;
@@ -25,6 +27,10 @@ final class TermsBoundsTest {
         unknownBits();
         oneTwice();
         outside();
+        toldWhat();
+        plinthWhat();
+        statueWhat();
+        walkerWhat();
         unknownFirst();
         outsideAheadOfNot();
         outsideAheadOfFull();
@@ -161,14 +167,59 @@ final class TermsBoundsTest {
     private static void outside() {
         sentence("OUTSIDE (another number out of its bounds)");
         Run x = Run.of(FOUR);
-        x.due(4, "told", 0).due(0, "told", 13).dueForEach(OUTSIDE, new int[] {-1, 14, LEAST, MOST}, "told", ANY);
-        x.due(50, "plinth", 0, 0).due(6, "plinth", 0, 3).dueForEach(OUTSIDE, new int[] {-1, 4, LEAST, MOST}, "plinth", 0, ANY);
-        x.due(0, "statue", 0, 0).due(5, "statue", 0, 6).dueForEach(OUTSIDE, new int[] {-1, 7, LEAST, MOST}, "statue", 0, ANY);
-        x.due(1, "walker", 0, 0).due(1, "walker", 0, 2).dueForEach(OUTSIDE, new int[] {-1, 3, LEAST, MOST}, "walker", 0, ANY);
         x.due(0, "change", 0, 0).due(1, "change", 0, 1).dueForEach(OUTSIDE, new int[] {-1, 2, LEAST, MOST}, "change", 0, ANY);
         x.due(4, "power", 0, 0, 0).due(3, "power", 0, 0, 1).dueForEach(OUTSIDE, new int[] {-1, 2, LEAST, MOST}, "power", 0, 0, ANY);
         x.due(16, "likings", 0).due(0, "likings", 1).dueForEach(OUTSIDE, new int[] {-1, 2, LEAST, MOST}, "likings", ANY);
         x.due(0, "seed", 0).due(0, "seed", MOST).dueForEach(OUTSIDE, new int[] {-1, LEAST}, "seed", ANY).due(MOST, "seed", 0);
+    }
+
+    private static final int[] NEITHER = {-1, LEAST, MOST};
+
+    /** Each answer from what = 0 on, and no more on either side. */
+    private static void whole(Run x, int[] answers, String name, int... ahead) {
+        int[] numbers = Arrays.copyOf(ahead, ahead.length + 1);
+        for (int what = 0; what < answers.length; what++) {
+            numbers[ahead.length] = what;
+            x.due(answers[what], name, numbers.clone());
+        }
+        numbers[ahead.length] = ANY;
+        x.dueForEach(OUTSIDE, NEITHER, name, numbers).dueForEach(OUTSIDE, new int[] {answers.length}, name, numbers);
+    }
+
+    private static void toldWhat() {
+        sentence("11 COUNTS, 12 entries of THE BOOK, 13 how many can be undone. OUTSIDE.");
+        whole(Run.anew(), new int[] {0, 0, 0, 0, 0, 0, 0, 0, 0, NONE, 0, 0, 0, 0}, "told");
+        whole(Run.of(FULLEST), new int[] {7, 5, 6, 7, 0, 0, 31, 0, 0, 5, 0, 0, 0, 0}, "told");
+        Run most = Run.of(FULLEST).feed(" ".repeat(240));
+        for (int i = 0; i < 6; i++) most.make("count", 0, 0);
+        for (int i = 0; i < 15; i++) most.make("write", 0, 0);
+        for (int i = 0; i < 16; i++) most.make("down", i % 5);
+        for (int i = 0; i < 16; i++) most.make("scrub", i % 6);
+        whole(most, new int[] {7, 5, 6, 7, 240, 0, 0, 31, 0, 5, 0, 6, 15, 16}, "told");
+    }
+
+    private static void plinthWhat() {
+        sentence("Of a PLINTH: what = 0 VIEW, 1 who stands there (NONE), 2 WALKERS under it (a SET), 3 their votes. UNKNOWN, OUTSIDE.");
+        whole(Run.of(FULLEST), new int[] {10, 0, 3, 10}, "plinth", 0);
+        whole(Run.of(FULLEST), new int[] {50, 4, 33, 14}, "plinth", 4);
+        whole(Run.of("t1;p0;"), new int[] {0, NONE, 0, 0}, "plinth", 0);
+        whole(Run.of("t1;p99;" + "w1 9 0;".repeat(7)), new int[] {99, NONE, 127, 63}, "plinth", 0);
+    }
+
+    private static void statueWhat() {
+        sentence("Of a STATUE: what = 0 KIND, 1 the VIEW it wants, 2 its PLINTH (NONE), 3 TIRED, 4 how often ELECTED, 5 MARGIN (NONE), 6 who likes it (a SET of WALKERS). UNKNOWN, OUTSIDE.");
+        whole(Run.of(FULLEST), new int[] {0, 10, 0, 0, 0, 1010, 3}, "statue", 0);
+        whole(Run.of(FULLEST), new int[] {2, 60, 4, 0, 0, 1014, 33}, "statue", 4);
+        whole(Run.of(FULLEST), new int[] {3, 99, NONE, 0, 0, NONE, 65}, "statue", 5);
+        whole(Run.of("t1;s0 9 0;"), new int[] {0, 0, NONE, 0, 0, NONE, 0}, "statue", 0);
+        whole(Run.of("t1;s0 9 0;" + "w0 1 1;".repeat(7)), new int[] {0, 0, NONE, 0, 0, NONE, 127}, "statue", 0);
+    }
+
+    private static void walkerWhat() {
+        sentence("Of a WALKER: what = 0 PLINTHS (a SET), 1 votes, 2 whom one likes (a SET of STATUES). UNKNOWN, OUTSIDE.");
+        whole(Run.of(FULLEST), new int[] {31, 9, 63}, "walker", 0);
+        whole(Run.of(FULLEST), new int[] {0, 6, 32}, "walker", 6);
+        whole(Run.of("t1;w0 1 0;"), new int[] {0, 1, 0}, "walker", 0);
     }
 
     private static void unknownFirst() {

@@ -43,6 +43,7 @@ final class TextBoundsTest {
         blanksInTexts();
         sideBySide();
         firstLetters();
+        earlierTexts();
         leastFaults();
         faultOne();
         faultTwo();
@@ -266,6 +267,21 @@ final class TextBoundsTest {
         fault(4, 16, "t1;p1;s0 0 0;s3 0x");
     }
 
+    /** Letters of an earlier text are not read again behind the end of a shorter one. */
+    private static void earlierTexts() {
+        sentence("THE TEXT (it is empty then, with a FAULT, too)");
+        String whole = "t7;p50;s0 0 40;w1 3 1;";
+        for (int n = 1; n < whole.length(); n++) {
+            String text = whole.substring(0, n);
+            Run x = Run.of(whole).due(0, "told", 4).feed(text).due(n, "told", 4);
+            if (text.endsWith(";")) x.due(n < 7 ? 0 : 1, "capital").due(NONE, "fault");
+            else x.due(-11, "capital").due(n, "fault").due(1, "told", 3);
+            x.due(0, "told", 4);
+        }
+        Run faulty = Run.anew().feed("t77;").due(-12, "capital").due(0, "told", 4).feed("t7").due(-11, "capital").due(2, "fault");
+        faulty.due(0, "capital").due(NONE, "fault").due(1, "feed", 't').due(-11, "capital").due(1, "fault");
+    }
+
     private static void leastFaults() {
         sentence("of these the least:");
         fault(1, 25, "t1;" + PLINTHS[5] + "w0 1 0;p1;");
@@ -393,6 +409,8 @@ final class TextBoundsTest {
         Run same = rich().feed("t2;p5;p6;s0 0 0;s1 9 0;w1 1 1;w3 2 2;").due(2, "capital");
         same.due(0, "told", 5).due(0, "statue", 0, 2).due(NONE, "statue", 1, 2).due(0, "statue", 0, 3).due(0, "statue", 1, 3);
         same.due(1, "walker", 0, 0).due(2, "walker", 1, 2).due(0, "statue", 0, 4);
+        Run elected = Run.of("t1;p5;s1 0 0;").due(1, "year", 5).due(5, "statue", 0, 4).feed("t1;p5;s1 0 0;").due(1, "capital");
+        elected.due(0, "statue", 0, 4).due(0, "statue", 0, 3).due(0, "told", 5).due(1, "year", 1).due(1, "statue", 0, 4);
     }
 
     private static void latestFaults() {

@@ -175,6 +175,7 @@ final class TriedBoundsTest {
         Run.of("t1;p0;p0;w3 1 0;w2 1 0;").due(0, "ladder");
         Run.of("t1;p0;p0;w3 1 0;w2 2 0;").due(1, "ladder");
         Run.of("t1;p0;w1 9 0;w1 9 0;w1 9 0;w1 9 0;w1 9 0;w1 9 0;w1 9 0;").due(0, "ladder").due(1, "count", 0, 9).due(7, "likings", 0).due(NONE, "ladder");
+        Run.of("t1;p0;w1 9 0;w1 9 0;w1 9 0;w1 9 0;w1 9 0;w1 9 0;w1 9 0;").due(1, "count", 0, 63).due(1, "likings", 0).due(NONE, "ladder");
     }
 
     private static void mostHave() {
@@ -228,6 +229,11 @@ final class TriedBoundsTest {
         placed("t1;p0;p0;p0;p0;p0;s0 9 0;s0 9 0;s0 9 0;s0 9 0;s0 9 0;s0 9 0;", 5, 0, 0, 1, 2, 3, 4, NONE);
         Run moved = Run.of("t1;p9;s0 9 0;s0 0 0;").due(0, "places", 0).due(NONE, "places", 1).due(0, "down", 1).due(0, "places", 0);
         moved.due(1000, "stand", 0, 0).due(NONE, "places", 1);
+        Run fewer = Run.of("t1;p9;p8;s0 9 0;s0 9 0;s0 9 0;s0 9 0;s0 9 0;s0 9 0;").due(2, "places", NONE).due(17, "places", -2);
+        for (String text : new String[] {"t1;p9;p8;s0 9 0;s0 9 9;", "t1;p9;p8;s0 9 0;", "t1;p9;p8;"}) {
+            int statues = (text.length() - 9) / 7;
+            fewer.feed(text).due(2, "capital").due(statues, "places", NONE).due(new int[] {0, 9, 17}[statues], "places", -2);
+        }
     }
 
     private static void placesOfLikeOnes() {
@@ -439,9 +445,11 @@ final class TriedBoundsTest {
         sentence("if there are WALKERS and PLINTHS");
         String[] without = {"t9;", "t9;p0;", "t9;w0 1 0;", "t9;s0 9 0;w0 1 0;", "t9;p0;s0 0 0;"};
         for (String text : without) Run.of(text).due(0, "seed", seedOf(4, 0)).due(text.endsWith("s0 0 0;") ? 1 : 0, "drift", 1).due(behind(seedOf(4, 0), 1), "seed", 0);
+        Run.of("t9;p0;w0 1 0;").due(0, "seed", seedOf(4, 0)).due(0, "drift", 1).due(1, "walker", 0, 0).due(behind(seedOf(4, 0), 3), "seed", 0);
         sentence("if there are STATUES and PLINTHS");
         String[] neither = {"t9;", "t9;p0;", "t9;s0 9 0;", "t9;s0 9 0;w0 1 0;", "t9;p0;w1 1 0;"};
         for (String text : neither) Run.of(text).due(0, "seed", seedOf(4, 1)).due(0, "drift", 1).due(behind(seedOf(4, 1), 1), "seed", 0);
+        Run.of("t9;p0;s0 9 0;").due(0, "seed", seedOf(4, 1)).due(1, "drift", 1).due(behind(seedOf(4, 1), 3), "seed", 0);
         sentence("if there are STATUES, a DRAW of these");
         for (String text : new String[] {"t9;", "t9;p0;", "t9;w0 1 0;", "t9;p0;w1 1 0;"}) {
             Run.of(text).due(0, "seed", seedOf(4, 2)).due(0, "drift", 1).due(behind(seedOf(4, 2), 1), "seed", 0);

@@ -234,6 +234,10 @@ final class YearsBoundsTest {
             inYear9000(name).due(1, "year", 60).due(9060, "told", 5).due(FULL, "year", 1).due(15, "undo").due(1, "drift", 60).due(9060, "told", 5);
             inYear9000(name).due(1285, "statue", 0, 4).due(0, "standing", 0, 60).due(NONE, "goesDown", 0);
         }
+        // what is tried goes on beyond them
+        Run tried = Run.of("t7;p0;s1 9 0;");
+        for (int i = 0; i < 151; i++) tried.make("year", 60);
+        tried.due(1000, "stand", 0, 0).due(0, "standing", 0, 29).due(NONE, "standing", 0, 30).due(30, "goesDown", 0).due(FULL, "year", 30);
         Run x = inYear9000("year").due(1, "year", 1).due(FULL, "year", 1).due(NOT, "stand", 0, 0).due(0, "down", 0).due(1000, "stand", 0, 0);
         x.feed("t1;").due(0, "capital").due(0, "year", 1).due(1, "told", 5);
     }
