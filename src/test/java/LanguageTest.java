@@ -9,12 +9,14 @@ import java.util.ArrayList;
 import java.util.Collections;
 import java.util.IdentityHashMap;
 import java.util.List;
+import java.util.Map;
 import java.util.Set;
+import java.util.TreeMap;
 import java.util.TreeSet;
 import java.util.regex.Matcher;
 import java.util.regex.Pattern;
 
-/** What can be seen from outside of LANGUAGE.md: the face, words that are ruled out, the room that an object takes. */
+/** What of LANGUAGE.md can be looked up: the face, words that are ruled out, how deep calls go, the room that an object takes. */
 final class LanguageTest {
     private static final Path SOURCE = Path.of("src/main/java/StatueVotes.java");
     private static final String[] FACE = {
@@ -96,12 +98,86 @@ final class LanguageTest {
         for (int i = 0; i < text.length(); i++) {
             if (text.charAt(i) > 127) due("letter " + i, (int) text.charAt(i), "127 or less");
         }
-        int lines = 0;
-        for (String line : code.split("\n")) {
-            lines = line.matches(" {4,8}}") ? 0 : lines + 1;
-            if (line.matches(" {4,8}(\\w+ )*\\w+\\(.*\\) \\{")) lines = 1;
-            if (lines > 60 && line.startsWith("            ")) due("a method has " + lines + " lines", line, "60 at most");
+        library(code);
+        Map<String, List<String>> methods = methods(code);
+        due("methods, as many as the class has", methods.keySet().containsAll(declared()), true);
+        shape(methods);
+        depth(methods);
+    }
+
+    /** Own classes and constants aside, only these words begin with a capital letter; nothing is imported. */
+    private static void library(String code) {
+        Set<String> known = new TreeSet<>(List.of("StatueVotes", "Integer.bitCount", "Math.max", "Math.min", "System.arraycopy"));
+        for (Class<?> c : StatueVotes.class.getDeclaredClasses()) known.add(c.getSimpleName());
+        Matcher m = Pattern.compile("\\b[A-Z]\\w*[a-z]\\w*(\\.\\w+)?").matcher(code);
+        while (m.find()) due("known: " + m.group(), known.contains(m.group()), true);
+        due("imports", Pattern.compile("\\bimport\\b").matcher(code).find(), false);
+    }
+
+    private static Set<String> declared() {
+        Set<String> names = new TreeSet<>();
+        List<Class<?>> all = new ArrayList<>(List.of(StatueVotes.class.getDeclaredClasses()));
+        all.add(StatueVotes.class);
+        for (Class<?> c : all) for (Method m : c.getDeclaredMethods()) if (!m.isSynthetic()) names.add(m.getName());
+        return names;
+    }
+
+    /** Heads and bodies of all methods by their names; of the same name in several classes, all of them. */
+    private static Map<String, List<String>> methods(String code) {
+        Map<String, List<String>> all = new TreeMap<>();
+        Matcher head = Pattern.compile("^(?: {4}| {8})(?:[\\w\\[\\]]+ )+(\\w+)\\([^()]*\\) \\{", Pattern.MULTILINE).matcher(code);
+        while (head.find()) {
+            int open = 1;
+            int at = head.end();
+            for (; at < code.length() && open > 0; at++) {
+                if (code.charAt(at) == '{') open++;
+                if (code.charAt(at) == '}') open--;
+            }
+            all.computeIfAbsent(head.group(1), n -> new ArrayList<>()).add(code.substring(head.start(), at));
         }
+        return all;
+    }
+
+    private static void shape(Map<String, List<String>> methods) {
+        Set<String> made = new TreeSet<>(Set.of("StatueVotes"));
+        for (Class<?> c : StatueVotes.class.getDeclaredClasses()) made.add(c.getSimpleName());
+        methods.forEach((name, all) -> {
+            for (String method : all) {
+                String parameters = method.substring(method.indexOf('('), method.indexOf(')'));
+                due(name + ": lines, at most 60", method.split("\n").length <= 60, true);
+                due(name + ": parameters, at most 7", parameters.split(",").length <= 7, true);
+                boolean makes = Pattern.compile("\\bnew\\b|\\bclone\\b").matcher(method).find();
+                due(name + " makes something", makes && !made.contains(name), false);
+            }
+        });
+    }
+
+    /** By the names that bodies call: none comes back to itself, and no chain is longer than eight. */
+    private static void depth(Map<String, List<String>> methods) {
+        for (String f : FACE) {
+            String name = f.substring(0, f.indexOf(' '));
+            List<String> longest = chain(name, methods, new ArrayList<>());
+            due(longest + ": at most eight deep", longest.size() <= 8, true);
+        }
+    }
+
+    private static List<String> chain(String name, Map<String, List<String>> methods, List<String> ahead) {
+        List<String> here = new ArrayList<>(ahead);
+        here.add(name);
+        if (ahead.contains(name)) {
+            due("a call of itself: " + here, true, false);
+            return here;
+        }
+        List<String> longest = here;
+        for (String method : methods.getOrDefault(name, List.of())) {
+            Matcher call = Pattern.compile("\\b(\\w+)\\(").matcher(method.substring(method.indexOf('{')));
+            while (call.find()) {
+                if (!methods.containsKey(call.group(1))) continue;
+                List<String> further = chain(call.group(1), methods, here);
+                if (further.size() > longest.size()) longest = further;
+            }
+        }
+        return longest;
     }
 
     /** All that an object holds is made with it, so it does not grow by calls. */
